@@ -448,7 +448,7 @@ public final class NamePlate {
         }
 
         static int openness(char code) {
-            if (isMark(code)) {
+            if (code == '.' || code == '-') {
                 return 2;
             }
             return (code - 'A') % 3;
@@ -824,7 +824,7 @@ public final class NamePlate {
         }
 
         int columnOf(int seat) {
-            return seat - rowOf(seat) * columns;
+            return columns > 0 ? seat % columns : 0;
         }
 
         int rowsFor(int seats) {

@@ -9,12 +9,15 @@ public final class ToldTest {
         nameNumbers();
         nameRefuses();
         nameOfSizeZero();
+        fitsToThePoint();
+        tooNarrowForAnySize();
         rowsAndColumns();
         centredWithinTheColumn();
         widerThanTheColumn();
         signNumbers();
         signRefuses();
         findsSigns();
+        findsSignsAtSizeOne();
         findsTheLowestSeat();
         sizes();
         sizeByTells();
@@ -82,6 +85,36 @@ public final class ToldTest {
         Check.due("sign's measure at size 0", plate.sign(0, 0, 4), 6);
         Check.due("signAt at size 0", plate.signAt(100, 100), Plates.NONE);
         Check.due("signAt below 0 at size 0", plate.signAt(-1, 100), Plates.BAD_VALUE);
+    }
+
+    private static void fitsToThePoint() {
+        NamePlate plate = Plates.with(MIXED);
+        plate.recut(40 + 35 * 8, 40 + 12 * 8);
+        Check.due("size as wide and as high as the room", plate.size(), 8);
+        Check.due("it fits", plate.name(0, 7), 1);
+        Check.due("it begins with the column", plate.engrave(0), 20);
+        NamePlate rows = Plates.with("A");
+        rows.engrave(0);
+        rows.readNames();
+        Check.due("the second row on 960 points", rows.name(1, 7), 1);
+        rows.recut(2000, 999);
+        rows.remove(1);
+        rows.engrave(0);
+        rows.readNames();
+        Check.due("size", rows.size(), 40);
+        Check.due("the second row on 959 points", rows.name(1, 7), 0);
+    }
+
+    private static void tooNarrowForAnySize() {
+        NamePlate plate = Plates.with(Plates.SIXTEEN);
+        plate.setColumns(3);
+        plate.recut(300, 1000);
+        Check.due("155 units on 86 points", plate.size(), 0);
+        Check.due("it does not fit", plate.name(0, 7), 0);
+        Check.due("it has no place", plate.name(0, 5), Plates.NONE);
+        Check.due("no sign has", plate.signAt(20, 20), Plates.NONE);
+        Check.due("it is not engraved", plate.engrave(0), Plates.NOT_POSSIBLE);
+        Check.due("nor are all", plate.engraveAll(), Plates.NONE);
     }
 
     private static void rowsAndColumns() {
@@ -204,6 +237,17 @@ public final class ToldTest {
         Check.due("y below 0", plate.signAt(1000, -1), Plates.BAD_VALUE);
         Check.due("far below 0", plate.signAt(Integer.MIN_VALUE, Integer.MIN_VALUE), Plates.BAD_VALUE);
         Check.due("without names", new NamePlate().signAt(1000, 500), Plates.NONE);
+    }
+
+    private static void findsSignsAtSizeOne() {
+        NamePlate plate = Plates.with(Plates.SIXTEEN);
+        plate.recut(300, 100);
+        Check.due("size", plate.size(), 1);
+        int begin = plate.name(0, 5);
+        Check.due("first point", plate.signAt(begin, 20), 0);
+        Check.due("last point below", plate.signAt(begin + 154, 31), 15);
+        Check.due("behind the name", plate.signAt(begin + 155, 31), Plates.NONE);
+        Check.due("below the row", plate.signAt(begin, 32), Plates.NONE);
     }
 
     private static void findsTheLowestSeat() {
