@@ -19,6 +19,11 @@ final class Check {
         due(what, is ? 1 : 0, 1);
     }
 
+    /** How many answers were not as due until now. */
+    static int wrong() {
+        return wrong;
+    }
+
     /** Ends the test with exit code 1 if an answer was not the one that is due. */
     static void end() {
         System.out.println(asked + " answers, " + wrong + " not as due");

@@ -12,6 +12,10 @@ final class Plates {
     private Plates() {
     }
 
+    static boolean isSign(int code) {
+        return code >= 'A' && code <= 'Z' || code == '.' || code == '-';
+    }
+
     /** Types a text in place of the one that was. */
     static void text(NamePlate plate, String text) {
         plate.clearText();
