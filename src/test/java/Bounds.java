@@ -33,7 +33,7 @@ abstract class Bounds {
         for (Method test : all) {
             holds(test);
         }
-        System.out.println(all.size() + " sentences' bounds");
+        System.out.println(all.size() + " tests of sentences" + (Document.isThere() ? "" : ", NO DOC.md TO QUOTE FROM"));
         Check.end();
     }
 
@@ -53,8 +53,7 @@ abstract class Bounds {
         Bound bound = test.getAnnotation(Bound.class);
         int before = Check.wrong();
         try {
-            String heading = bound.in().isEmpty() ? "Promise " + bound.promise() : bound.in();
-            Check.holds("words under " + heading + " of the document", Document.says(heading, bound.says()));
+            dueQuote(bound);
             test.setAccessible(true);
             test.invoke(null);
         } catch (InvocationTargetException thrown) {
@@ -67,6 +66,13 @@ abstract class Bounds {
             System.out.println("NOT HELD: promise " + bound.promise() + ", \"" + bound.says() + "\": " + test.getName());
         }
         return held;
+    }
+
+    private static void dueQuote(Bound bound) throws IOException {
+        if (Document.isThere()) {
+            String heading = bound.in().isEmpty() ? "Promise " + bound.promise() : bound.in();
+            Check.holds("words under " + heading + " of the document", Document.says(heading, bound.says()));
+        }
     }
 
     // ---- answers
@@ -88,12 +94,13 @@ abstract class Bounds {
         NamePlate other = start.get();
         due(call, asks.applyAsInt(asked), answer);
         dueAlike("at once", call, asked, other);
+        // Before any undo(): behind it, the call itself is made on both if it is undo().
+        due("restore behind " + call, asked.restore(), other.restore());
+        dueAlike("restored", call, asked, other);
         for (int back = 1; back <= 6; back++) {
             due("undo " + back + " behind " + call, asked.undo(), other.undo());
             Check.holds("counts after undo " + back + " behind " + call, counts(asked).equals(counts(other)));
         }
-        due("restore behind " + call, asked.restore(), other.restore());
-        dueAlike("restored", call, asked, other);
         due("readNames behind " + call, asked.readNames(), other.readNames());
         dueAlike("read", call, asked, other);
     }

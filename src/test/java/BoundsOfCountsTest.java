@@ -256,6 +256,25 @@ public final class BoundsOfCountsTest extends Bounds {
     }
 
     @Bound(promise = 25, says = "in the order in which they got one (since it was 0 the last time)")
+    static void thePairsBehindOneThatIs0ComeOnePlaceEarlier() {
+        String signs = "AB.C-DEFGHIJKLMNO";
+        for (int zero = 0; zero < 16; zero += 5) {
+            NamePlate plate = new NamePlate();
+            for (int place = 0; place < 16; place++) {
+                plate.adjust(signs.charAt(place), signs.charAt(place + 1), place % 3 + 1);
+            }
+            plate.adjust(signs.charAt(zero), signs.charAt(zero + 1), 0);
+            for (int place = 0; place < 15; place++) {
+                int was = place < zero ? place : place + 1;
+                due("left of " + place + " without " + zero, plate.pair(place, 0), signs.charAt(was));
+                due("right of " + place + " without " + zero, plate.pair(place, 1), signs.charAt(was + 1));
+                due("adjustment of " + place + " without " + zero, plate.pair(place, 2), was % 3 + 1);
+            }
+            due("behind them", plate.pair(15, 2), NONE);
+        }
+    }
+
+    @Bound(promise = 25, says = "in the order in which they got one (since it was 0 the last time)")
     static void aPairThatWasNot0KeepsItsPlace() {
         NamePlate plate = withSixteenPairs("A");
         plate.adjust('A', 'A', -3);

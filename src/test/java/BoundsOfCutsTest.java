@@ -302,22 +302,12 @@ public final class BoundsOfCutsTest extends Bounds {
         dueUnchanged("adjust by -4", Bounds::rich, plate -> plate.adjust('B', 'A', -4), BAD_VALUE);
         dueUnchanged("adjust what is engraved", Bounds::rich, plate -> plate.adjust('A', 'B', 0), NOT_POSSIBLE);
         dueUnchanged("adjust to what it is", Bounds::free, plate -> plate.adjust('A', 'B', 2), NONE);
-        dueUnchanged("adjust the 17th", BoundsOfCutsTest::threeStates, plate -> plate.adjust('Q', 'A', 1), FULL);
+        dueUnchanged("adjust the 17th", BoundsOfCutsTest::keptWithSixteenPairs, plate -> plate.adjust('Q', 'A', 1), FULL);
     }
 
-    /** Sixteen pairs, and a history that is not full, so that one state more would show. */
-    private static NamePlate threeStates() {
+    private static NamePlate keptWithSixteenPairs() {
         NamePlate plate = withSixteenPairs("A");
-        plate.undo();
-        plate.undo();
-        plate.undo();
-        plate.undo();
-        plate.undo();
-        for (int place = 11; place < 16; place++) {
-            plate.adjust((char) ('A' + place), 'A', 2);
-        }
         plate.keep();
-        due("pairs", plate.count(9), 16);
         return plate;
     }
 }

@@ -59,6 +59,14 @@ public final class BoundsOfEngravingTest extends Bounds {
         due("the short one", narrow.engrave(0), NOT_POSSIBLE);
     }
 
+    @Bound(promise = 11, says = "NOT_POSSIBLE if it does not fit at the size, or this is 0")
+    static void aNameIsEngravedAtTheSize1() {
+        NamePlate plate = with(SIXTEEN, 300, 100);
+        due("size", plate.size(), 1);
+        due("155 units on 260 points", plate.engrave(0), plate.name(0, 5));
+        due("engraved names", plate.count(5), 1);
+    }
+
     @Bound(promise = 11, says = "NONE if it is engraved already")
     static void noNameIsEngravedTwice() {
         NamePlate plate = withLetters(20);
@@ -118,6 +126,14 @@ public final class BoundsOfEngravingTest extends Bounds {
         NamePlate last = withLetters(20);
         last.engrave(19);
         due("nineteen beside the last one", last.engraveAll(), 19);
+    }
+
+    @Bound(promise = 12, says = "Engraves all names that are not engraved and fit.")
+    static void namesAreEngravedAtTheSize1() {
+        NamePlate plate = with("A;B;C;D;E", 300, 100);
+        due("size of five rows on 60 points", plate.size(), 1);
+        due("all five", plate.engraveAll(), 5);
+        due("size then", plate.size(), 1);
     }
 
     @Bound(promise = 12, says = "This is one act.")

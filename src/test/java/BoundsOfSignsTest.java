@@ -138,11 +138,14 @@ public final class BoundsOfSignsTest extends Bounds {
 
     @Bound(promise = 17, in = "SIGNS", says = "The eye's measure of a space is this space plus the openness of both.")
     static void theMeasureOfTheLeastSpace() {
-        NamePlate plate = with("CC;AA");
+        NamePlate plate = with("CC;AA;AC;CA");
         plate.adjust('C', 'C', -3);
         plate.adjust('A', 'A', 3);
+        plate.adjust('A', 'C', -3);
         due("measure of a space of 1", plate.sign(0, 0, 4), 1 + 2 + 2);
         due("measure of the greatest space", plate.sign(1, 0, 4), 9);
+        due("measure of a space of 1 before a C", plate.sign(2, 0, 4), 1 + 0 + 2);
+        due("measure of a space of 4 behind a C", plate.sign(3, 0, 4), 4 + 2 + 0);
     }
 
     @Bound(promise = 16, in = "SIGNS",

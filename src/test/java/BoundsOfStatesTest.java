@@ -87,6 +87,25 @@ public final class BoundsOfStatesTest extends Bounds {
         due("last sign of a name and first one of the next", plate.adjust('B', 'A', 2), 0);
     }
 
+    @Bound(promise = 5, in = "ENGRAVING", says = "the adjustment of a pair stays if any engraved name has this pair")
+    static void signsOfTwoSeatsAreNoPair() {
+        NamePlate plate = with(SIXTEEN + ";BA");
+        plate.engraveAll();
+        due("last sign of a full seat and first one of the next", plate.adjust('P', 'B', 1), 0);
+        due("first sign of the next and last one before", plate.adjust('B', 'P', 1), 0);
+    }
+
+    @Bound(promise = 5, in = "ENGRAVING", says = "the adjustment of a pair stays if any engraved name has this pair")
+    static void signsOfARemovedNameAreNoPair() {
+        NamePlate plate = with("ABCD");
+        plate.remove(0);
+        read(plate, "AB");
+        plate.engrave(0);
+        due("a pair of the name", plate.adjust('A', 'B', 1), NOT_POSSIBLE);
+        due("its last sign, and what was behind it", plate.adjust('B', 'C', 1), 0);
+        due("what was behind it", plate.adjust('C', 'D', 1), 0);
+    }
+
     @Bound(promise = 2, in = "ENGRAVING", says = "When the plate is cut anew, no name is engraved any more.")
     static void noNameIsEngravedOnANewPlate() {
         NamePlate plate = withLetters(20);
@@ -249,27 +268,59 @@ public final class BoundsOfStatesTest extends Bounds {
     }
 
     @Bound(promise = 13, in = "HISTORY", says = "A state is everything but the text, the history and the snapshot.")
-    static void undoBringsBackAllNumbersOfTheState() {
-        NamePlate plate = withSixteenPairs("A;XY");
-        plate.engrave(1);
+    static void undoBringsBackAllNumbersOfThePlate() {
+        NamePlate plate = with("A;XY");
+        plate.engraveAll();
         plate.recut(700, 800);
         plate.setMargin(11);
         plate.setColumns(3);
-        int size = plate.size();
-        plate.engraveAll();
-        plate.recut(900, 300);
         plate.engrave(0);
-        Check.holds("another size " + plate.size() + " for " + size, plate.size() != size);
+        plate.recut(900, 300);
+        plate.setMargin(5);
+        plate.setColumns(2);
         plate.undo();
-        due("undo", plate.undo(), 3);
-        int[] counts = {700, 800, 11, 3, 2, 2, 1, 1, 1, 16, 3, 4};
+        plate.undo();
+        plate.undo();
+        due("undo", plate.undo(), 1);
+        int[] counts = {700, 800, 11, 3, 2, 0, 1, 1, 2, 0, 1, 4};
         for (int what = 0; what < counts.length; what++) {
             due("count(" + what + ")", plate.count(what), counts[what]);
         }
-        due("the size of what is engraved", plate.size(), size);
+    }
+
+    @Bound(promise = 13, in = "HISTORY", says = "A state is everything but the text, the history and the snapshot.")
+    static void undoBringsBackAllNamesAndPairs() {
+        NamePlate plate = withSixteenPairs("A;XY");
+        plate.adjust('A', 'A', 0);
+        plate.adjust('Q', 'R', 3);
+        plate.remove(0);
+        plate.readNames();
+        plate.swap(1, 2);
+        Plates.dueNames("then", plate, "XY", "XY", "A");
+        int[] pairs = {16, 15, 16, 16, 16};
+        for (int left = 4; left >= 0; left--) {
+            due("undo", plate.undo(), left);
+            due("pairs with so many states left: " + left, plate.count(9), pairs[left]);
+        }
+        Plates.dueNames("undone", plate, "A", "XY");
+        for (int place = 0; place < 16; place++) {
+            due("left of " + place, plate.pair(place, 0), 'A' + place);
+            due("right of " + place, plate.pair(place, 1), 'A');
+            due("adjustment of " + place, plate.pair(place, 2), 1);
+        }
+    }
+
+    @Bound(promise = 13, in = "HISTORY", says = "A state is everything but the text, the history and the snapshot.")
+    static void undoBringsBackWhatIsEngravedAndItsSize() {
+        NamePlate plate = with("A;XY", 700, 232);
+        due("engrave at 8, two rows on 192 points", plate.engraveAll(), 2);
+        plate.recut(2000, 1000);
+        plate.engrave(0);
+        due("size then", plate.size(), 40);
+        plate.undo();
+        due("undo", plate.undo(), 3);
+        due("size", plate.size(), 8);
+        due("engraved names", plate.count(5), 2);
         due("margin is bound again", plate.setMargin(0), NOT_POSSIBLE);
-        due("the last pair", plate.pair(15, 0), 'P');
-        due("and its adjustment", plate.pair(15, 2), 1);
-        due("the last sign of the last name", plate.sign(1, 1, 0), 'Y');
     }
 }

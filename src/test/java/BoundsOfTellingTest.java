@@ -103,6 +103,18 @@ public final class BoundsOfTellingTest extends Bounds {
         }
     }
 
+    @Bound(promise = 16, says = "NONE (5, 6, 8 and 9) if the size is 0")
+    static void allNumbersAreToldAtTheSize1() {
+        NamePlate plate = with(SIXTEEN, 300, 100);
+        due("size", plate.size(), 1);
+        due("begin by the width", plate.name(0, 9), 20 + (260 - 155) / 2);
+        due("begin of the row", plate.name(0, 6), 20);
+        due("it fits", plate.name(0, 7), 1);
+        due("width", plate.name(0, 8), 155);
+        Check.holds("it begins in the column", plate.name(0, 5) >= 20 && plate.name(0, 5) <= 280 - 155);
+        due("its first sign begins there", plate.sign(0, 0, 5), plate.name(0, 5));
+    }
+
     @Bound(promise = 16, says = "Returns the number; UNKNOWN; BAD_VALUE; NONE (5, 6, 8 and 9) if the size is 0.")
     static void theOrderOfTheErrorsOfName() {
         due("no seat and no number", with("A").name(1, 11), UNKNOWN);
@@ -192,6 +204,15 @@ public final class BoundsOfTellingTest extends Bounds {
         for (int what = 0; what < 5; what++) {
             due("sign(0, 1, " + what + ") at the size 0", plate.sign(0, 1, what), due[what]);
         }
+    }
+
+    @Bound(promise = 17, says = "5 for where it begins on the plate (NONE if the size is 0)")
+    static void aSignBeginsAtTheSize1() {
+        NamePlate plate = with("DD", 300, 100);
+        plate.setMargin(44);
+        due("size of a row on 12 points", plate.size(), 1);
+        due("14 units on 212 points", plate.sign(0, 0, 5), 44 + 99);
+        due("its second sign", plate.sign(0, 1, 5), 44 + 99 + 10);
     }
 
     @Bound(promise = 17, says = "5 for where it begins on the plate")
@@ -320,6 +341,27 @@ public final class BoundsOfTellingTest extends Bounds {
         due("in a space", fromEdgeToEdge().signAt(30, 0), NONE);
         due("below the row", fromEdgeToEdge().signAt(0, 120), NONE);
         due("behind the name", fromEdgeToEdge().signAt(350, 0), NONE);
+    }
+
+    @Bound(promise = 18, says = "NONE if there is none, or the size is 0")
+    static void aSignIsFoundAtTheSize1() {
+        NamePlate plate = with("DD", 300, 100);
+        plate.setMargin(44);
+        due("size of a row on 12 points", plate.size(), 1);
+        due("first point", plate.signAt(143, 44), 0);
+        due("last point", plate.signAt(156, 55), 1);
+        due("end", plate.signAt(157, 55), NONE);
+        due("below the row", plate.signAt(156, 56), NONE);
+    }
+
+    @Bound(promise = 18, says = "NONE if there is none, or the size is 0")
+    static void noSignOfARemovedNameIsFound() {
+        NamePlate plate = withEngraved();
+        read(plate, "A");
+        due("in the second row", plate.signAt(940, 500), 100);
+        plate.remove(1);
+        due("when it is removed", plate.signAt(940, 500), NONE);
+        due("the first row", plate.signAt(940, 20), 0);
     }
 
     @Bound(promise = 18, says = "BAD_VALUE; NONE if there is none, or the size is 0")

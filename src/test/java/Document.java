@@ -1,7 +1,6 @@
 import java.io.IOException;
 import java.nio.file.Files;
 import java.nio.file.Path;
-import java.util.List;
 
 /** ../shared/DOC.md, looked up by its headings. */
 final class Document {
@@ -11,12 +10,16 @@ final class Document {
     private Document() {
     }
 
+    /** A checkout without the document can be tested all the same, but for the words that the tests quote. */
+    static boolean isThere() {
+        return Files.exists(PLACE);
+    }
+
     /** Whether these words stand under the heading: "Promise 7", "What it is", or one in capitals of "Terms". */
     static boolean says(String heading, String words) throws IOException {
         StringBuilder part = new StringBuilder();
         boolean inside = false;
-        List<String> lines = Files.readAllLines(PLACE);
-        for (String line : lines) {
+        for (String line : Files.readAllLines(PLACE)) {
             if (isHeading(line)) {
                 inside = line.equals(heading) || line.equals("## " + heading) || line.startsWith("## " + heading + ":");
             } else if (inside) {
