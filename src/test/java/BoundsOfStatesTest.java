@@ -1,4 +1,4 @@
-/** The bounds that "ENGRAVING", "HISTORY" and "What it is" name. */
+/** The bounds that "ENGRAVING", "HISTORY", "ERRORS" and "What it is" name. */
 public final class BoundsOfStatesTest extends Bounds {
 
     public static void main(String[] args) {
@@ -25,6 +25,22 @@ public final class BoundsOfStatesTest extends Bounds {
     }
 
     // ---- ENGRAVING
+
+    @Bound(promise = 16, in = "ENGRAVING", says = "What is engraved is not altered")
+    static void whatIsEngravedStaysAsItIs() {
+        NamePlate plate = with("AB;C");
+        int begin = plate.engrave(0);
+        read(plate, SIXTEEN + ";D");
+        plate.adjust('B', 'A', 3);
+        plate.swap(1, 3);
+        plate.remove(2);
+        due("begin", plate.name(0, 5), begin);
+        due("units", plate.name(0, 1), 3 + 5 + 8);
+        due("width", plate.name(0, 8), 16 * 40);
+        due("its last sign", plate.sign(0, 1, 5), begin + 8 * 40);
+        due("it fits", plate.name(0, 7), 1);
+        due("it is engraved", plate.engrave(0), NONE);
+    }
 
     @Bound(promise = 3, in = "ENGRAVING", says = "as long as any name is engraved, margin and columns stay")
     static void theMarginStaysWhileOneNameIsEngraved() {
@@ -114,6 +130,35 @@ public final class BoundsOfStatesTest extends Bounds {
         due("engraved names", plate.count(5), 0);
         due("the first one", plate.name(0, 2), 0);
         due("the last one", plate.name(19, 2), 0);
+    }
+
+    // ---- ERRORS
+
+    @Bound(promise = 22, in = "ERRORS", says = "NONE is no error; it is returned only if no error applies.")
+    static void noneIsAnsweredOnlyIfNoErrorApplies() {
+        NamePlate empty = new NamePlate();
+        due("no least width, and a bad size", empty.leastWidth(0), BAD_VALUE);
+        due("no least width", empty.leastWidth(1), NONE);
+        due("no pair, and a bad number", empty.pair(0, 3), BAD_VALUE);
+        due("no pair", empty.pair(0, 2), NONE);
+        due("no sign, and a bad point", empty.signAt(0, -1), BAD_VALUE);
+        due("no sign", empty.signAt(0, 0), NONE);
+        NamePlate plate = withEngraved();
+        due("so already, and engraved", plate.setMargin(20), NOT_POSSIBLE);
+        due("the same, and engraved", plate.swap(0, 0), NOT_POSSIBLE);
+        due("the same, and no seat", plate.swap(1, 1), UNKNOWN);
+        due("engraved already, which is no error", plate.engrave(0), NONE);
+    }
+
+    @Bound(promise = 5, in = "ERRORS",
+            says = "Where several errors can apply, the order of the @return line is the order of the checks.")
+    static void theFirstErrorOfTheLineIsAnswered() {
+        NamePlate plate = withSixteenPairs("QA;" + FIFTEEN);
+        plate.engraveAll();
+        due("all four", plate.adjust('q', 'A', 4), UNKNOWN);
+        due("the last three", plate.adjust('Q', 'A', 4), BAD_VALUE);
+        due("the last two", plate.adjust('Q', 'A', 1), NOT_POSSIBLE);
+        due("the last one", plate.adjust('R', 'A', 1), FULL);
     }
 
     // ---- HISTORY
