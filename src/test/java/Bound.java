@@ -3,7 +3,7 @@ import java.lang.annotation.Retention;
 import java.lang.annotation.RetentionPolicy;
 import java.lang.annotation.Target;
 
-/** Marks the test of one sentence of ../shared/DOC.md that names a boundary case. */
+/** Marks the test of a sentence of ../shared/DOC.md. */
 @Retention(RetentionPolicy.RUNTIME)
 @Target(ElementType.METHOD)
 @interface Bound {
@@ -14,6 +14,6 @@ import java.lang.annotation.Target;
     /** The heading under which the sentence stands; that of the promise if it is empty. */
     String in() default "";
 
-    /** The sentence, or as much of it as names the boundary, in the document's words. */
-    String says();
+    /** The sentence, or as much of it as is tested, in the document's words, or several ones. */
+    String[] says();
 }

@@ -1,13 +1,16 @@
 import java.io.IOException;
 import java.lang.reflect.InvocationTargetException;
 import java.lang.reflect.Method;
+import java.nio.file.Files;
+import java.nio.file.Path;
 import java.util.ArrayList;
 import java.util.Comparator;
 import java.util.List;
 import java.util.function.Supplier;
 import java.util.function.ToIntFunction;
+import java.util.stream.Stream;
 
-/** What the classes BoundsOf*Test share; each of their tests holds to one sentence, which its @Bound names. */
+/** What the tests of sentences share; each of them holds to a sentence of the document, which its @Bound names. */
 abstract class Bounds {
 
     static final int UNKNOWN = Plates.UNKNOWN;
@@ -37,6 +40,14 @@ abstract class Bounds {
         Check.end();
     }
 
+    /** All classes that hold tests of sentences. */
+    static List<String> classesOfTests() throws IOException {
+        try (Stream<Path> files = Files.list(Path.of("src/test/java"))) {
+            return files.map(file -> file.getFileName().toString().replace(".java", ""))
+                    .filter(name -> name.matches("(BoundsOf\\w+|OtherSentences)Test")).sorted().toList();
+        }
+    }
+
     static List<Method> testsOf(Class<?> tests) {
         List<Method> all = new ArrayList<>();
         for (Method test : tests.getDeclaredMethods()) {
@@ -63,15 +74,23 @@ abstract class Bounds {
         }
         boolean held = Check.wrong() == before;
         if (!held) {
-            System.out.println("NOT HELD: promise " + bound.promise() + ", \"" + bound.says() + "\": " + test.getName());
+            String says = String.join("\", \"", bound.says());
+            System.out.println("NOT HELD: promise " + bound.promise() + ", \"" + says + "\": " + test.getName());
         }
         return held;
     }
 
+    /** The heading of the document under which the words of this test stand. */
+    static String headingOf(Bound bound) {
+        return bound.in().isEmpty() ? "Promise " + bound.promise() : bound.in();
+    }
+
     private static void dueQuote(Bound bound) throws IOException {
         if (Document.isThere()) {
-            String heading = bound.in().isEmpty() ? "Promise " + bound.promise() : bound.in();
-            Check.holds("words under " + heading + " of the document", Document.says(heading, bound.says()));
+            String part = Document.under(headingOf(bound));
+            for (String words : bound.says()) {
+                Check.holds("words under " + headingOf(bound) + " of the document", part.contains(words));
+            }
         }
     }
 
@@ -105,7 +124,7 @@ abstract class Bounds {
         dueAlike("read", call, asked, other);
     }
 
-    private static void dueAlike(String when, String call, NamePlate asked, NamePlate other) {
+    static void dueAlike(String when, String call, NamePlate asked, NamePlate other) {
         String is = tell(asked);
         String due = tell(other);
         Check.holds(when + ", behind " + call + ": " + is + ", due " + due, is.equals(due));

@@ -11,7 +11,6 @@ import java.util.TreeMap;
 import java.util.TreeSet;
 import java.util.regex.Matcher;
 import java.util.regex.Pattern;
-import java.util.stream.Stream;
 
 /**
  * Breaks the program in each of the ways of src/test/breaks.txt: the test that the line names has to fail then.
@@ -20,7 +19,6 @@ import java.util.stream.Stream;
 public final class BrokenTest {
 
     private static final Path PROGRAM = Path.of("src/main/java/NamePlate.java");
-    private static final Path TESTS = Path.of("src/test/java");
     private static final Path BREAKS = Path.of("src/test/breaks.txt");
     private static final Pattern LINE = Pattern.compile("(\\w+) @ ([\\w.-]+): (.+?) => (.*)");
     private static final int PROMISES = 26;
@@ -53,7 +51,7 @@ public final class BrokenTest {
 
     private static void gatherTests() throws IOException, ClassNotFoundException {
         TreeSet<Integer> promises = new TreeSet<>();
-        for (String tests : classesOfTests()) {
+        for (String tests : Bounds.classesOfTests()) {
             for (Method test : Bounds.testsOf(Class.forName(tests))) {
                 Check.holds("one test alone is " + test.getName(), CLASSES.put(test.getName(), tests) == null);
                 promises.add(test.getAnnotation(Bound.class).promise());
@@ -61,13 +59,6 @@ public final class BrokenTest {
         }
         for (int promise = 1; promise <= PROMISES; promise++) {
             Check.holds("promise " + promise + " has a test", promises.contains(promise));
-        }
-    }
-
-    private static List<String> classesOfTests() throws IOException {
-        try (Stream<Path> files = Files.list(TESTS)) {
-            return files.map(file -> file.getFileName().toString().replace(".java", ""))
-                    .filter(name -> name.matches("BoundsOf\\w+Test")).sorted().toList();
         }
     }
 

@@ -1,6 +1,8 @@
 import java.io.IOException;
 import java.nio.file.Files;
 import java.nio.file.Path;
+import java.util.ArrayList;
+import java.util.List;
 
 /** ../shared/DOC.md, looked up by its headings. */
 final class Document {
@@ -15,21 +17,36 @@ final class Document {
         return Files.exists(PLACE);
     }
 
-    /** Whether these words stand under the heading: "Promise 7", "What it is", or one in capitals of "Terms". */
-    static boolean says(String heading, String words) throws IOException {
+    /** All headings, in order: "Promise 7" without the words behind it, "What it is", those in capitals of "Terms". */
+    static List<String> headings() throws IOException {
+        List<String> all = new ArrayList<>();
+        for (String line : Files.readAllLines(PLACE)) {
+            if (isHeading(line)) {
+                all.add(nameOf(line));
+            }
+        }
+        return all;
+    }
+
+    /** What stands under the heading, up to the next one. */
+    static String under(String heading) throws IOException {
         StringBuilder part = new StringBuilder();
         boolean inside = false;
         for (String line : Files.readAllLines(PLACE)) {
             if (isHeading(line)) {
-                inside = line.equals(heading) || line.equals("## " + heading) || line.startsWith("## " + heading + ":");
+                inside = nameOf(line).equals(heading);
             } else if (inside) {
                 part.append(line).append('\n');
             }
         }
-        return part.indexOf(words) >= 0;
+        return part.toString();
     }
 
     private static boolean isHeading(String line) {
-        return line.startsWith("## ") || line.matches("[A-Z]{5,}");
+        return line.startsWith("#") || line.matches("[A-Z]{5,}");
+    }
+
+    private static String nameOf(String line) {
+        return line.replaceFirst("^#+ ", "").replaceFirst("^(Promise \\d+):.*", "$1");
     }
 }

@@ -1,10 +1,15 @@
+import java.io.IOException;
 import java.lang.reflect.Constructor;
 import java.lang.reflect.Field;
 import java.lang.reflect.Method;
 import java.lang.reflect.Modifier;
+import java.nio.file.Files;
+import java.nio.file.Path;
 import java.util.Arrays;
 import java.util.List;
 import java.util.TreeSet;
+import java.util.regex.MatchResult;
+import java.util.regex.Pattern;
 
 /** The public face of the document: its constants, its constructor and its methods, and no others. */
 public final class FaceTest {
@@ -20,12 +25,21 @@ public final class FaceTest {
     private static final List<String> CONSTANTS =
             List.of("UNKNOWN", "BAD_VALUE", "FULL", "NOT_POSSIBLE", "NONE");
 
-    public static void main(String[] args) throws IllegalAccessException {
+    private static final Pattern HEAD = Pattern.compile("(?m)^    public [^\n]*\\w\\([^\n]*\\) \\{$");
+    private static final Pattern SECTION = Pattern.compile("(?m)^    // (---- [^\n]*)$");
+    private static final Pattern AHEAD = Pattern.compile("Ahead of the calls (.*) the interface says: (.*)\\.");
+
+    public static void main(String[] args) throws IllegalAccessException, IOException {
         Check.due("class is public and final", NamePlate.class.getModifiers(), Modifier.PUBLIC | Modifier.FINAL);
         constants();
         constructor();
         methods();
         classesInside();
+        if (Document.isThere()) {
+            String program = Files.readString(Path.of("src/main/java/NamePlate.java"));
+            inTheDocumentsWords(program);
+            inTheDocumentsSections(program);
+        }
         Check.end();
     }
 
@@ -73,6 +87,35 @@ public final class FaceTest {
                 Check.holds(inside + " " + method.getName() + " has a name of its own", isOwnName(method.getName()));
             }
         }
+    }
+
+    /** The names of the parameters, too, and the order of all. */
+    private static void inTheDocumentsWords(String program) throws IOException {
+        List<String> is = Pattern.compile("(?m)^    public [^\n]*").matcher(program).results()
+                .map(line -> line.group().replace(" {", ";")).toList();
+        List<String> due = Pattern.compile("(?m)^    public [^\n]*").matcher(Document.under("The public face")).results()
+                .map(MatchResult::group).toList();
+        Check.due("lines of the face", is.size(), due.size());
+        for (int line = 0; line < Math.min(is.size(), due.size()); line++) {
+            Check.holds(is.get(line) + " is due as " + due.get(line), is.get(line).equals(due.get(line)));
+        }
+    }
+
+    private static void inTheDocumentsSections(String program) throws IOException {
+        List<MatchResult> sections = AHEAD.matcher(Document.under("ERRORS")).results().toList();
+        Check.due("sections", sections.size(), 5);
+        for (MatchResult section : sections) {
+            List<String> is = HEAD.matcher(sectionOf(program, section.group(2))).results()
+                    .map(head -> head.group().replaceFirst(".* (\\w+)\\(.*", "`$1`")).toList();
+            Check.holds(section.group(2) + " stands ahead of " + is, String.join(", ", is).equals(section.group(1)));
+        }
+    }
+
+    /** What stands between this line of the program's face and the next one of its kind. */
+    private static String sectionOf(String program, String heading) {
+        String[] parts = SECTION.split(program);
+        List<String> headings = SECTION.matcher(program).results().map(line -> line.group(1)).toList();
+        return headings.contains(heading) ? parts[headings.indexOf(heading) + 1] : "";
     }
 
     private static boolean isOwnName(String name) {
